@@ -9,9 +9,11 @@ public final class ChangeTest {
         promise24();
         promise25();
         promise26();
+        lastPeriod();
         promise27();
         promise28();
         movesForgotten();
+        movesBroughtBack();
         promise29();
         promise31();
         promise32();
@@ -81,6 +83,7 @@ public final class ChangeTest {
         x.move(2, 1);
         Check.same("24: a pinned one", x.drop(0), 3);
         Check.same("24: the numbers behind it", Check.written(x), "hot:d cold:b,c");
+        Check.same("24: none is pinned now", x.count(5), 0);
         Check.same("24: what they were", x.file(1, 2), 6);
         Check.same("24: their moves", x.count(6), 4);
         long paid = x.account(NONE, 2);
@@ -147,6 +150,23 @@ public final class ChangeTest {
         Check.same("26: great costs", y.close(), 3L * 999 * 99 * 10000);
     }
 
+    /** No object gets there within the 512 calls that the document speaks of; this one goes on. */
+    private static void lastPeriod() {
+        SeasonTiers x = Check.of(TWO + "file a 10 on hot pin 9999;");
+        for (int i = 0; i < 9998; i++) {
+            x.close();
+        }
+        Check.same("26: still pinned", x.file(0, 4), 1);
+        Check.same("26: into the last period", x.close(), 30);
+        Check.same("26: the last period", x.count(4), 9999);
+        Check.same("26: no longer pinned", x.file(0, 4), 0);
+        x.use(0, 5);
+        Check.same("26: the last one stays open", x.close(), -17);
+        Check.same("26: its uses stay", x.file(0, 2), 5);
+        x.undo();
+        Check.same("26: a refusal is no change", x.file(0, 2), 0);
+    }
+
     private static void promise27() {
         SeasonTiers x = Check.of("cycle 2;tier a 10 1 1 5 7;tier b 10 1 1 11 13;tier c 10 1 1 17 19;"
                 + "file v 4 on a;file w 6 on b;file x 4 on b pin 1;");
@@ -198,6 +218,8 @@ public final class ChangeTest {
         x.add(6, 0);
         Check.same("28: just enough room", x.unmove(), 0);
         Check.same("28: all is off", x.account(NONE, 3), 0);
+        Check.same("28: all is off a", x.account(0, 2), 0);
+        Check.same("28: all is off b", x.account(1, 2), 0);
         Check.same("28: none any more", x.unmove(), -16);
         x.undo();
         Check.same("28: undone", x.file(0, 1), 1);
@@ -220,6 +242,57 @@ public final class ChangeTest {
         Check.same("28: the first is forgotten", x.unmove(), -16);
         Check.same("28: and was paid", x.account(NONE, 2), 20);
         Check.same("28: where they are", Check.written(x), "a:v b:w");
+    }
+
+    /** The moves themselves come back, not just how many there were. */
+    private static void movesBroughtBack() {
+        SeasonTiers x = Check.of("cycle 2;tier a 90 0 0 1 2;tier b 90 0 0 3 4;tier c 90 0 0 5 6;file u 1 on a;file v 2 on b;file w 3 on c;");
+        x.move(0, 2);
+        x.move(1, 0);
+        x.save(0);
+        x.unmove();
+        x.unmove();
+        x.move(2, 1);
+        x.move(0, 1);
+        x.save(1);
+        x.restore(0);
+        movesAre(x, "a:v b: c:u,w", 1, "a: b:v c:u,w", 0, "a:u b:v c:w");
+        x.restore(1);
+        movesAre(x, "a: b:u,v,w c:", 0, "a:u b:v,w c:", 2, "a:u b:v c:w");
+        x.move(2, 0);
+        x.undo();
+        movesAre(x, "a: b:u,v,w c:", 0, "a:u b:v,w c:", 2, "a:u b:v c:w");
+        for (int i = 0; i < 62; i++) {
+            x.move(0, i % 2 == 0 ? 2 : 1);
+        }
+        x.move(1, 0);
+        x.move(0, 0);
+        Check.same("24: the latest 60", x.count(6), 60);
+        x.drop(2);
+        Check.same("24: of a file whose move is forgotten", x.count(6), 60);
+        x.drop(1);
+        Check.same("24: the last but one", x.count(6), 59);
+        x.undo();
+        Check.same("24: undone", x.count(6), 60);
+        x.drop(0);
+        Check.same("24: all but one", x.count(6), 1);
+        Check.same("24: that one", x.unmove(), 0);
+        Check.same("24: where it is", Check.written(x), "a: b:v c:");
+    }
+
+    /** What the store is, and what it becomes by two calls of unmove, which are then undone again. */
+    private static void movesAre(SeasonTiers x, String now, int first, String then, int second, String last) {
+        Check.same("28: now", Check.written(x), now);
+        Check.same("28: the latest file", x.unmove(), first);
+        Check.same("28: then", Check.written(x), then);
+        Check.same("28: the file before", x.unmove(), second);
+        Check.same("28: at last", Check.written(x), last);
+        for (int t = 0; t < 3; t++) {
+            Check.same("28: nothing was paid on " + t, x.account(t, 3), 0);
+        }
+        x.undo();
+        x.undo();
+        Check.same("28: undone", Check.written(x), now);
     }
 
     private static void promise29() {

@@ -288,7 +288,27 @@ public final class LookTest {
             x.close();
         }
         Check.same("14: that of most", x.commonCycle(), 4);
+        x.drop(2);
+        x.drop(1);
+        Check.same("14: that of the only one", x.commonCycle(), x.cycleOf(0));
+        x.drop(0);
+        Check.same("14: of no file any more", x.commonCycle(), NONE);
+        Check.same("14: 12", used("cycle 2", 9, 0, 0, 0, 0, 0, 0, 0, 0, 0, 0, 0, 9).commonCycle(), 12);
         Check.same("14: without files", new SeasonTiers().commonCycle(), NONE);
+        SeasonTiers y = used("cycle 2", 5, 0, 0, 5, 0, 0, 5);
+        Check.same("14: once", y.commonCycle(), 3);
+        Check.same("14: twice", y.commonCycle(), 3);
+        y.undo();
+        y.undo();
+        Check.same("14: after undo", y.commonCycle(), 3);
+        SeasonTiers z = used("cycle 2", 9, 0, 0, 0, 0, 0, 0, 0, 0, 0, 0, 0, 9);
+        Check.same("14: 12 at first", z.commonCycle(), 12);
+        close(z, 0, 0, 0, 0, 0, 0, 0, 0, 0, 0, 0, 0, 0, 0, 0, 0, 0, 0, 0, 0, 0, 0, 0, 0, 0, 0);
+        Check.same("14: no longer", z.commonCycle(), 2);
+        z.drop(0);
+        Check.same("14: nor any more", z.commonCycle(), NONE);
+        close(y, 5, 0, 5, 0, 5, 0, 5, 0, 5, 0, 5, 0, 5, 0, 5, 0, 5, 0, 5, 0, 5, 0, 5, 0);
+        Check.same("14: another one now", y.commonCycle(), 2);
     }
 
     private static void promise15() {

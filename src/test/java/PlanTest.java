@@ -11,6 +11,7 @@ public final class PlanTest {
         promise19Exchanges();
         promise19Room();
         promise19Order();
+        promise19Most();
         promise20();
         promise21();
         promise22();
@@ -89,6 +90,10 @@ public final class PlanTest {
         Check.same("18: to keep 80 or 20, with 40 to read and 80 to move", z.wish(1, 1), 0);
         Check.same("18: what saves most, not first",
                 Check.of("cycle 2;tier a 9 9 0 0 0;tier b 9 5 0 0 0;tier c 9 1 0 0 0;file x 1 on a;").wish(0, 1), 2);
+        Check.same("18: what saves most, not last",
+                Check.of("cycle 2;tier a 9 9 0 0 0;tier b 9 1 0 0 0;tier c 9 5 0 0 0;file w 1 on b;file x 1 on a;").wish(1, 1), 1);
+        Check.same("18: what saves 1",
+                Check.of("cycle 2;tier a 9 2 0 0 0;tier b 9 1 0 0 0;file x 1 on a;").wish(0, 1), 1);
         Check.refused("18: file 3", Check.INDEX, () -> x.wish(3, 1));
         Check.refused("18: file -1", Check.INDEX, () -> x.wish(-1, 1));
         Check.refused("18: periods 0", Check.ARGUMENT, () -> x.wish(0, 0));
@@ -109,6 +114,7 @@ public final class PlanTest {
         SeasonTiers y = Check.of("cycle 2;tier a 50 2 0 1 1;tier b 50 1 0 0 0;file x 10 on a;");
         planIs("what saves 0 is no step", y, 1, "", 0);
         planIs("what saves 10", y, 2, "0>1", 10);
+        planIs("what saves 1", Check.of("cycle 2;tier a 9 2 0 0 0;tier b 9 1 0 0 0;file x 1 on a;"), 1, "0>1", 1);
         SeasonTiers z = closed("cycle 2;tier a 99 9 0 0 0;tier b 5 5 0 0 0;tier c 5 1 5 0 0;tier d 5 5 0 0 0;"
                 + "file x 5 on a;file y 5 on c;", 0, 1);
         planIs("a file in a step stays there", z, 1, "0>1 1>3", 25);
@@ -137,6 +143,11 @@ public final class PlanTest {
         planIs("an exchange that saves 10", even, 1, "0x1>1", 10);
         even.setTier(0, 4, 1);
         planIs("an exchange that saves 0", even, 1, "", 0);
+        planIs("an exchange that saves 1",
+                closed("cycle 2;tier a 1 2 0 0 0;tier b 1 1 1 0 0;file x 1 on a;file y 1 on b;", 0, 1), 1, "0x1>1", 1);
+        planIs("exchanges of other tiers", closed("cycle 2;tier o 1 0 0 0 0;tier a 10 9 0 0 0;tier p 1 0 0 0 0;tier b 10 1 9 0 0;"
+                + "file u 1 on o;file v 5 on a;file w 5 on b;file x 5 on a;file y 5 on b;file z 1 on p;", 0, 0, 1, 0, 2, 0),
+                1, "1x4>3 2x3>1", 135);
         planIs("no exchange on one tier", closed("cycle 2;tier a 10 1 1 0 0;tier b 4 1 0 0 0;file x 5 on a;file y 5 on a;", 9, 9),
                 1, "", 0);
     }
@@ -171,8 +182,53 @@ public final class PlanTest {
         planIs("a move that an exchange makes room for", y, 1, "0x2>1 3>1", 1217);
     }
 
+    /** 20 files on 4 tiers: each file in a step, each row and each place used. */
+    private static void promise19Most() {
+        StringBuilder text = new StringBuilder("cycle 2;tier a 99 9 0 0 0;tier b 99 9 0 0 0;tier c 99 9 0 0 0;tier d 210 2 0 0 0;");
+        StringBuilder due = new StringBuilder();
+        long saving = 0;
+        for (int i = 0; i < 20; i++) {
+            text.append("file ").append((char) ('a' + i)).append(' ').append(20 - i).append(" on ").append("abc".charAt(i % 3)).append(';');
+            due.append(i == 0 ? "" : " ").append(i).append(">3");
+            saving += 7 * (20 - i);
+        }
+        SeasonTiers x = Check.of(text.toString());
+        planIs("20 moves", x, 1, due.toString(), saving);
+        Check.same("18: the last file", x.wish(19, 24), 3);
+        Check.same("5: none of 20 is pinned", x.count(5), 0);
+        Check.same("22: with all that room", x.withRoom(3, 9, 1), 0);
+        Check.same("22: with less", x.setTier(3, 0, 209) + x.withRoom(3, 1, 1), 210 + 7);
+        x.setTier(3, 0, 1);
+        Check.same("19: room for the least one", plan(x, 1), "19>3");
+        x.setTier(3, 0, 210);
+        x.learn(3, 4);
+        x.close();
+        Check.same("6: of 20 files", x.tier(2, 7), 2);
+        Check.same("30: all 20", x.act(1), 20);
+        Check.same("30: no more", x.steps(24), 0);
+        for (int i = 20; i > 0; i--) {
+            Check.same("24: the first of 20", x.drop(0), i - 1);
+            Check.same("24: the moves of the others", x.count(6), i - 1);
+        }
+        for (int i = 0; i < 20; i++) {
+            Check.same("23: 20 files again", x.add(i + 1, 3), i);
+        }
+        for (int i = 0; i < 20; i++) {
+            Check.same("23: each one by itself", x.file(i, 0), i + 1);
+            x.use(i, i + 1);
+        }
+        for (int i = 0; i < 20; i++) {
+            Check.same("25: each one by itself", x.file(i, 2), i + 1);
+        }
+    }
+
     private static void promise20() {
         SeasonTiers x = Check.of(THREE + "file x 5 on a;file y 5 on a;file z 6 on a;");
+        Check.same("20: ahead of any other call", x.step(1, 0, 0), 2);
+        Check.same("20: of another plan", x.step(24, 2, 2), 2);
+        x.pin(2, 1);
+        Check.same("20: planned anew", x.step(1, 0, 0), 0);
+        x.pin(2, 0);
         Check.refused("20: step 3", Check.INDEX, () -> x.step(1, 3, 0));
         Check.refused("20: step -1", Check.INDEX, () -> x.step(1, -1, 0));
         Check.refused("20: step far", Check.INDEX, () -> x.step(1, Integer.MAX_VALUE, 0));
@@ -183,10 +239,10 @@ public final class PlanTest {
         Check.refused("20: periods and step", Check.ARGUMENT, () -> x.step(25, 3, 0));
         Check.refused("20: what and step", Check.ARGUMENT, () -> x.step(1, 3, 3));
         Check.same("20: a plan changes nothing", Check.written(x), "a:x,y,z b: c:");
-        Check.refused("20: and is no change", Check.INDEX, () -> {
-            x.undo();
-            return x.step(1, 0, 0);
-        });
+        SeasonTiers y = new SeasonTiers();
+        y.add(1, 0);
+        Check.refused("20: nothing to do", Check.INDEX, () -> y.step(24, 0, 0));
+        Check.same("20: a plan is no change", y.undo(), 0);
     }
 
     private static void promise21() {

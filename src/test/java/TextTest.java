@@ -14,6 +14,8 @@ public final class TextTest {
         promise3Files();
         promise3TooMany();
         promise3Odd();
+        promise3Words();
+        promise3Longest();
         promise4();
         promise36();
         promise37();
@@ -61,7 +63,12 @@ public final class TextTest {
         Check.refused("2: two too many", Check.STATE, () -> x.append(0, 0x20, 0, 0x20000000, 0));
         Check.same("2: nothing was appended", x.append(0, 0, 0, 0, 0), 599);
         Check.same("2: the last place", x.append(0, 0, 0x200000, 0, 0), 600);
-        Check.refused("2: a full buffer", Check.STATE, () -> x.append(1, 0, 0, 0, 0));
+        Check.refused("2: a full buffer, a", Check.STATE, () -> x.append(1, 0, 0, 0, 0));
+        Check.refused("2: a full buffer, b", Check.STATE, () -> x.append(0, 1, 0, 0, 0));
+        Check.refused("2: a full buffer, c", Check.STATE, () -> x.append(0, 0, 1, 0, 0));
+        Check.refused("2: a full buffer, d", Check.STATE, () -> x.append(0, 0, 0, 1, 0));
+        Check.refused("2: a full buffer, e", Check.STATE, () -> x.append(0, 0, 0, 0, 1));
+        Check.refused("2: a full buffer, all", Check.STATE, () -> x.append(1, 1, 1, 1, 1));
         Check.same("2: zeros still fit", x.append(0, 0, 0, 0, 0), 600);
     }
 
@@ -199,6 +206,7 @@ public final class TextTest {
         syntax(TIERS + "tier c 10 1 1 1 1|");
         value(HEAD + "tier a |0 1 1 1 1;");
         value(HEAD + "tier a |100000 1 1 1 1;");
+        value(HEAD + "tier a |999990 1 1 1 1;");
         value(HEAD + "tier a 10 |100 1 1 1;");
         value(HEAD + "tier a 10 1 |100 1 1;");
         value(HEAD + "tier a 10 1 1 |100 1;");
@@ -275,6 +283,41 @@ public final class TextTest {
         syntax("cycle 2|" + (char) 160 + ";");
         syntax(TIERS + "|" + (char) 255);
         syntax(TIERS + "|.");
+    }
+
+    /** Each word of the grammar with each of its letters wrong, one letter more, or one less. */
+    private static void promise3Words() {
+        String text = "cycle 2 rate 3;tier a 10 1 1 1 1;tier b 10 1 1 1 1;file x 1 on a pin 5;";
+        for (String word : new String[] {"cycle", "rate", "tier", "file", "on", "pin"}) {
+            int at = text.indexOf(word);
+            String before = text.substring(0, at) + "|";
+            String behind = text.substring(at + word.length());
+            for (int i = 0; i < word.length(); i++) {
+                char other = word.charAt(i) == 'z' ? 'y' : 'z';
+                syntax(before + word.substring(0, i) + other + word.substring(i + 1) + behind);
+            }
+            syntax(before + word + word.charAt(0) + behind);
+            syntax(before + word.substring(1) + behind);
+            syntax(before + word.substring(0, word.length() - 1) + behind);
+        }
+    }
+
+    /** Texts that fill the buffer to its last byte, with each kind of token at their end. */
+    private static void promise3Longest() {
+        String spaces = " ".repeat(600);
+        loads(TIERS + spaces.substring(TIERS.length()), 0, "a: b:");
+        loads(spaces.substring(TIERS.length()) + TIERS, 0, "a: b:");
+        syntax(spaces + "|");
+        syntax(spaces.substring(5) + "cycle|");
+        syntax(spaces.substring(7) + "cycle 2|");
+        value(spaces.substring(8) + "cycle |13");
+        syntax(spaces.substring(4) + "|cycl");
+        syntax(spaces.substring(14) + "cycle 2;tier a|");
+        String huge = "9".repeat(594);
+        value("cycle |" + huge);
+        String zeros = "0".repeat(593);
+        syntax("cycle " + zeros + "2|");
+        fails(SeasonTiers.UNKNOWN, TIERS + spaces.substring(TIERS.length() + 12) + "file x 1on |z");
     }
 
     private static void promise4() {
