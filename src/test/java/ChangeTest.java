@@ -21,6 +21,7 @@ public final class ChangeTest {
         eachChange();
         notUndone();
         promise34();
+        allThatIsKept();
         promise35();
         Check.end();
     }
@@ -563,6 +564,30 @@ public final class ChangeTest {
             x.save(-1);
             return 0;
         });
+    }
+
+    /** All 24 periods and 12 seasons of all files come back. */
+    private static void allThatIsKept() {
+        SeasonTiers x = Check.of("cycle 12 rate 3;tier a 9 1 1 1 1;tier b 9 1 1 1 1;file x 1 on a;file y 2 on b;");
+        for (int i = 0; i < 26; i++) {
+            x.use(0, 3 + i * i);
+            x.use(1, 900 - i * i);
+            x.close();
+        }
+        x.save(0);
+        String before = told(x);
+        for (int i = 0; i < 24; i++) {
+            x.close();
+        }
+        x.drop(0);
+        x.restore(0);
+        Check.same("34: all that is kept", told(x), before);
+        x.learn(11, 1);
+        x.undo();
+        Check.same("33: all that is kept", told(x), before);
+        x.drop(0);
+        x.undo();
+        Check.same("33: both files", told(x), before);
     }
 
     private static void promise35() {

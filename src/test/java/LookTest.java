@@ -341,6 +341,8 @@ public final class LookTest {
         }
         Check.same("15: great costs", y.close(), 3L * 999 * 99 * 10000);
         Check.same("15: great sums", y.account(0, 3), 3L * 999 * 99 * 10000);
+        Check.same("15: great sums of all", y.account(NONE, 3), 3L * 999 * 99 * 10000);
+        Check.same("15: great sums of reading", y.account(NONE, 1), 3L * 999 * 99 * 9999);
     }
 
     private static void accountIs(SeasonTiers x, int tier, long keeping, long reading, long moving) {
