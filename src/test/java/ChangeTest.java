@@ -468,49 +468,21 @@ public final class ChangeTest {
             x -> Check.load(x, STORE)};
         for (int i = 0; i < changes.length; i++) {
             SeasonTiers x = sixChanges();
-            String before = told(x);
+            String before = Check.told(x);
             changes[i].on(x);
             Check.same("33: change " + i, x.undo(), 6);
-            Check.same("33: undone " + i, told(x), before);
+            Check.same("33: undone " + i, Check.told(x), before);
         }
         Doing[] others = {x -> x.add(999, 0), x -> x.use(0, 9999), x -> x.move(0, 1), x -> x.move(1, 0), x -> x.setTier(0, 0, 1),
             x -> x.save(1), x -> x.writeTiers(), x -> x.steps(1), x -> x.append(1, 2, 3, 4, 5), x -> x.load(),
             x -> Check.load(x, TWO + "file a 1000 on hot;"), x -> x.withRoom(0, 5, 5), x -> x.wish(1, 5), x -> x.commonCycle()};
         for (int i = 0; i < others.length; i++) {
             SeasonTiers x = sixChanges();
-            String before = told(x);
+            String before = Check.told(x);
             others[i].on(x);
-            Check.same("33: what is no change " + i, told(x), before);
+            Check.same("33: what is no change " + i, Check.told(x), before);
             Check.same("33: no change " + i, x.undo(), 5);
         }
-    }
-
-    private static String told(SeasonTiers x) {
-        StringBuilder text = new StringBuilder();
-        for (int i = 0; i < 8; i++) {
-            text.append(x.count(i)).append(' ');
-        }
-        for (int t = 0; t < x.count(2); t++) {
-            for (int i = 0; i < 8; i++) {
-                text.append(x.tier(t, i)).append(' ');
-            }
-            for (int i = 0; i < 4; i++) {
-                text.append(x.account(t, i)).append(' ');
-            }
-        }
-        for (int f = 0; f < x.count(3); f++) {
-            for (int i = 0; i < 10; i++) {
-                text.append(x.file(f, i)).append(' ');
-            }
-            for (int p = 0; p < x.count(0); p++) {
-                text.append(x.season(f, p)).append(' ');
-            }
-            for (int k = 0; k < x.file(f, 5); k++) {
-                text.append(x.kept(f, k)).append(' ');
-            }
-            text.append(x.off(f)).append(' ');
-        }
-        return text.toString();
     }
 
     private static void notUndone() {
@@ -536,26 +508,26 @@ public final class ChangeTest {
         x.close();
         x.move(0, 1);
         x.save(0);
-        String first = told(x);
+        String first = Check.told(x);
         x.move(1, 0);
         x.save(1);
-        String second = told(x);
+        String second = Check.told(x);
         x.undo();
-        Check.same("34: saving is no change", told(x), first);
+        Check.same("34: saving is no change", Check.told(x), first);
         x.close();
         x.drop(0);
         x.drop(0);
         Check.load(x, "cycle 3;tier a 1 1 1 1 1;tier b 1 1 1 1 1;tier c 1 1 1 1 1;");
         x.restore(0);
-        Check.same("34: slot 0", told(x), first);
+        Check.same("34: slot 0", Check.told(x), first);
         Check.same("34: names", Check.written(x), "hot: cold:a,b");
         Check.same("34: moves that can be undone", x.unmove(), 0);
         x.restore(1);
-        Check.same("34: slot 1", told(x), second);
+        Check.same("34: slot 1", Check.told(x), second);
         x.save(0);
         x.close();
         x.restore(0);
-        Check.same("34: in place of what was saved", told(x), second);
+        Check.same("34: in place of what was saved", Check.told(x), second);
         Check.refused("34: slot 2", Check.INDEX, () -> {
             x.save(2);
             return 0;
@@ -566,28 +538,35 @@ public final class ChangeTest {
         });
     }
 
-    /** All 24 periods and 12 seasons of all files come back. */
-    private static void allThatIsKept() {
+    /** Two files of which all that can be kept is something. */
+    private static SeasonTiers fullFiles() {
         SeasonTiers x = Check.of("cycle 12 rate 3;tier a 9 1 1 1 1;tier b 9 1 1 1 1;file x 1 on a;file y 2 on b;");
         for (int i = 0; i < 26; i++) {
             x.use(0, 3 + i * i);
             x.use(1, 900 - i * i);
             x.close();
         }
+        return x;
+    }
+
+    /** All 24 periods and 12 seasons of all files come back. */
+    private static void allThatIsKept() {
+        SeasonTiers x = fullFiles();
+        String before = Check.told(x);
         x.save(0);
-        String before = told(x);
         for (int i = 0; i < 24; i++) {
             x.close();
         }
         x.drop(0);
         x.restore(0);
-        Check.same("34: all that is kept", told(x), before);
-        x.learn(11, 1);
-        x.undo();
-        Check.same("33: all that is kept", told(x), before);
-        x.drop(0);
-        x.undo();
-        Check.same("33: both files", told(x), before);
+        Check.same("34: all that is kept", Check.told(x), before);
+        SeasonTiers y = fullFiles();
+        y.learn(11, 1);
+        y.undo();
+        Check.same("33: all that is kept", Check.told(y), before);
+        y.drop(0);
+        y.undo();
+        Check.same("33: both files", Check.told(y), before);
     }
 
     private static void promise35() {

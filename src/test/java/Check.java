@@ -102,4 +102,41 @@ final class Check {
         }
         return text.toString();
     }
+
+    /** All that an object tells in numbers, but for its plans and its texts. */
+    static String told(SeasonTiers x) {
+        StringBuilder text = new StringBuilder();
+        for (int i = 0; i < 8; i++) {
+            text.append(x.count(i)).append(' ');
+        }
+        int tiers = x.count(2);
+        for (int t = 0; t < tiers; t++) {
+            for (int i = 0; i < 8; i++) {
+                text.append(x.tier(t, i)).append(' ');
+            }
+            for (int i = 0; i < 4; i++) {
+                text.append(x.account(t, i)).append(' ');
+            }
+        }
+        int files = x.count(3);
+        int cycle = x.count(0);
+        for (int f = 0; f < files; f++) {
+            tellFile(x, f, cycle, text.append("| "));
+        }
+        return text.toString();
+    }
+
+    private static void tellFile(SeasonTiers x, int file, int cycle, StringBuilder text) {
+        for (int i = 0; i < 10; i++) {
+            text.append(x.file(file, i)).append(' ');
+        }
+        for (int p = 0; p < cycle; p++) {
+            text.append(x.season(file, p)).append(' ');
+        }
+        int kept = x.file(file, 5);
+        for (int k = 0; k < kept; k++) {
+            text.append(x.kept(file, k)).append(' ');
+        }
+        text.append(x.off(file)).append(' ');
+    }
 }
