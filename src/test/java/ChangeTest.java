@@ -151,7 +151,10 @@ public final class ChangeTest {
         Check.same("26: great costs", y.close(), 3L * 999 * 99 * 10000);
     }
 
-    /** No object gets there within the 512 calls that the document speaks of; this one goes on. */
+    /**
+     * No object gets there within its 512 calls, and what comes behind them is free; so this holds what
+     * the class does of itself, not what the document asks. It is the one test that goes on.
+     */
     private static void lastPeriod() {
         SeasonTiers x = Check.of(TWO + "file a 10 on hot pin 9999;");
         for (int i = 0; i < 9998; i++) {

@@ -888,9 +888,12 @@ public final class EdgeCallsTest extends Edges {
                 y.use(f, 9999);
             }
             is(y.close(), 19980L * 99 * 10000);
+            // No period that 512 calls can reach is refused.
             SeasonTiers z = new SeasonTiers();
-            close(z, 9999);
-            is(z.close(), -17);
+            for (int i = 0; i < 511; i++) {
+                is(z.close(), 0);
+            }
+            is(z.count(4), 511);
         });
     }
 

@@ -899,12 +899,11 @@ public final class EdgeTermsTest extends Edges {
             SeasonTiers x = Check.of(STORE);
             x.use(0, 9999);
             is(x.use(0, 1), -18);
-            // The period 9999 is beyond the 512 calls that are promised; it can be reached all the same.
-            close(x, 9998);
-            is(x.close(), 50);
-            is(x.count(4), 9999);
-            is(x.close(), -17);
-            is(x.count(4), 9999);
+            // The period 9999 lies beyond the 512 calls; the last period within them still closes.
+            SeasonTiers y = new SeasonTiers();
+            close(y, 510);
+            is(y.close(), 0);
+            is(y.count(4), 511);
         });
         says("(There is no reason 2.)", () -> {
             SeasonTiers x = withFiles(20);
